@@ -461,6 +461,10 @@ public final class TornCard {
             return octets[3];
         }
 
+        int place() {
+            return a() << 8 | b();
+        }
+
         int data(int k) {
             return k >= 0 && k < MOST_DATA ? octets[HEAD + 1 + k] : 0;
         }
@@ -596,19 +600,25 @@ public final class TornCard {
             return memory.files.has(directory) ? memory.files.parents[directory] : NONE;
         }
 
+        /** What READ and CHANGE test alike: DONE if nothing stands against them. */
+        private int testPlace(int from, boolean allowed) {
+            if (currentFile == NONE) {
+                return NO_CURRENT_FILE;
+            }
+            if (!allowed) {
+                return NOT_ALLOWED;
+            }
+            return memory.files.hasOctet(currentFile, from) ? DONE : BAD_PLACE;
+        }
+
         private int read() {
             if (command.dataLength > 0 || command.expected == NONE) {
                 return BAD_LENGTH;
             }
-            if (currentFile == NONE) {
-                return NO_CURRENT_FILE;
-            }
-            if (!memory.files.mayRead(currentFile, opened)) {
-                return NOT_ALLOWED;
-            }
-            int from = place();
-            if (!memory.files.hasOctet(currentFile, from)) {
-                return BAD_PLACE;
+            int from = command.place();
+            int tested = testPlace(from, memory.files.mayRead(currentFile, opened));
+            if (tested != DONE) {
+                return tested;
             }
             int there = memory.files.sizes[currentFile] - from;
             int count = Math.min(there, command.expected);
@@ -618,23 +628,14 @@ public final class TornCard {
             return there < command.expected ? FEWER : DONE;
         }
 
-        private int place() {
-            return command.a() << 8 | command.b();
-        }
-
         private int change() {
             if (command.dataLength == 0 || command.expected != NONE) {
                 return BAD_LENGTH;
             }
-            if (currentFile == NONE) {
-                return NO_CURRENT_FILE;
-            }
-            if (!memory.files.mayChange(currentFile, opened)) {
-                return NOT_ALLOWED;
-            }
-            int from = place();
-            if (!memory.files.hasOctet(currentFile, from)) {
-                return BAD_PLACE;
+            int from = command.place();
+            int tested = testPlace(from, memory.files.mayChange(currentFile, opened));
+            if (tested != DONE) {
+                return tested;
             }
             if (!memory.files.hasOctet(currentFile, from + command.dataLength - 1)) {
                 return BEYOND_END;

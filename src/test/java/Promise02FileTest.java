@@ -51,6 +51,8 @@ public final class Promise02FileTest {
         refused(x, 0, 1, 4, 3, 0);
         refused(x, 0, 1, 4, 0, -1);
         refused(x, 0, 1, 4, 0, 3);
+        refused(x, 0, 1, 1, 3, 0);
+        refused(x, 0, 1, 1, 0, 3);
         refused(x, 0, -1, 0, 0, 0);
         refused(x, 1, 1, 0, 0, 0);
         Due.is("FILES after refusals", x.state(1), 2);

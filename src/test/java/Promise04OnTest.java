@@ -34,7 +34,7 @@ public final class Promise04OnTest {
     }
 
     private static void forgetsWhatDoesNotLast() {
-        for (int way = 0; way < 2; way++) {
+        for (int way = 0; way < 4; way++) {
             Reader x = new Reader();
             x.file(0, 1, 0, 0, 0);
             x.file(1, 2, 9, 0, 0);
@@ -45,11 +45,15 @@ public final class Promise04OnTest {
             x.send(193, 4);
             x.send(64, 0, 176, 0, 0, 9);
             Due.is("an ANSWER in pieces", x.state(15), 7);
-            x.send(32, 1, 2, 3);
+            x.send(128);
+            Due.is("OUT", x.state(12), 1);
+            if (way > 1) {
+                x.send(32, 1, 2, 3);
+                Due.is("OCTETS of a COMMAND", x.state(14), 3);
+                Due.is("IN", x.state(11), 1);
+            }
             x.feed(0, 2);
-            Due.is("OCTETS of a COMMAND", x.state(14), 3);
-            Due.is("IN", x.state(11), 1);
-            if (way == 1) {
+            if (way % 2 == 1) {
                 x.off();
             }
             x.on();

@@ -18,6 +18,13 @@ public final class Promise09StoredTest {
         x.off();
         Due.are("OCTETS while OFF", x.storedOctets(1, 24), Reader.row(232, 24));
         Due.is("OFF: beyond the end", x.stored(1, 24), TornCard.REFUSED);
+        for (int f = 4; f < 8; f++) {
+            x.file(0, f, f, 0, 0);
+        }
+        Due.is("all 8 are there: the last OCTET", x.stored(7, 6), 0);
+        Due.is("all 8 are there: none behind it", x.stored(7, 7), TornCard.REFUSED);
+        Due.is("all 8 are there: no ninth", x.stored(8, 0), TornCard.REFUSED);
+        Due.is("all 8 are there: look", x.look(8, 0), TornCard.REFUSED);
         Due.is("REFUSED", TornCard.REFUSED, -1);
         Due.end();
     }

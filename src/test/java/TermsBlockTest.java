@@ -249,7 +249,10 @@ public final class TermsBlockTest {
             Due.is("RESYNC: state(" + what + ")", x.state(what), due[what - 8]);
         }
         x.send(0, 0, 176, 0, 0, 10);
+        Due.is("OUT has turned", x.state(12), 1);
         x.send(192);
+        Due.is("IN", x.state(11), 0);
+        Due.is("OUT", x.state(12), 0);
         Due.is("no ANSWER", x.state(15), 0);
         Due.are("none to repeat", x.send(144), Reader.blockOf(128));
     }
