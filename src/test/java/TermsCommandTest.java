@@ -5,6 +5,7 @@ public final class TermsCommandTest {
         classAndInstruction();
         find();
         findDuplicates();
+        findNothing();
         findUpward();
         findOrder();
         read();
@@ -110,6 +111,24 @@ public final class TermsCommandTest {
         at("the least number in the CURRENT DIRECTORY", x, 0, 4);
         x.find(0);
         at("NAME 0", x, 0, 6);
+    }
+
+    private static void findNothing() {
+        Reader x = new Reader();
+        x.file(0, 7, 1, 0, 0);
+        x.on();
+        Due.hex("NAME 0 where no FILE has it", x.find(0), 0x6A82);
+        at("as it was", x, 0, -1);
+        x.off();
+        for (int f = 2; f < 8; f++) {
+            x.file(0, f, 1, 0, 0);
+        }
+        x.on();
+        Due.hex("none of 8", x.find(99), 0x6A82);
+        Due.hex("a NAME that the first and the last of 8 have", x.find(7), 0x9000);
+        at("the least number of that NAME", x, 0, 1);
+        Due.hex("the sixth", x.find(6), 0x9000);
+        at("the sixth", x, 0, 6);
     }
 
     private static void findUpward() {
