@@ -4,15 +4,29 @@ import java.util.Arrays;
 final class Due {
     private static int checks = 0;
     private static int wrong = 0;
+    /** What is tested, told with each answer that is not as due. */
+    private static String tested = "";
 
     private Due() {
+    }
+
+    static void test(String what) {
+        tested = what + ": ";
+    }
+
+    static int checks() {
+        return checks;
+    }
+
+    static int wrong() {
+        return wrong;
     }
 
     static void is(String call, long got, long want) {
         checks++;
         if (got != want) {
             wrong++;
-            System.out.println(call + " answered " + got + ", due is " + want);
+            System.out.println(tested + call + " answered " + got + ", due is " + want);
         }
     }
 
@@ -20,7 +34,7 @@ final class Due {
         checks++;
         if (got != want) {
             wrong++;
-            System.out.println(call + " answered " + Integer.toHexString(got) + ", due is " + Integer.toHexString(want));
+            System.out.println(tested + call + " answered " + Integer.toHexString(got) + ", due is " + Integer.toHexString(want));
         }
     }
 
@@ -28,7 +42,7 @@ final class Due {
         checks++;
         if (!Arrays.equals(got, want)) {
             wrong++;
-            System.out.println(call + " answered " + Arrays.toString(got) + ", due is " + Arrays.toString(want));
+            System.out.println(tested + call + " answered " + Arrays.toString(got) + ", due is " + Arrays.toString(want));
         }
     }
 

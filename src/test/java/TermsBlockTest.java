@@ -21,15 +21,6 @@ public final class TermsBlockTest {
         Due.end();
     }
 
-    private static Reader cardWithFile(int size) {
-        Reader x = new Reader();
-        x.file(0, 1, size, 0, 0);
-        x.on();
-        x.find(1);
-        x.change(0, Reader.row(1, size));
-        return x;
-    }
-
     private static void wrongSum() {
         Reader x = new Reader();
         x.on();
@@ -75,7 +66,7 @@ public final class TermsBlockTest {
     }
 
     private static void wrongChangesNothing() {
-        Reader x = cardWithFile(9);
+        Reader x = Cards.withFile(9);
         x.send(193, 4);
         x.send(0, 0, 176, 0, 0, 9);
         int[] before = new int[16];
@@ -121,7 +112,7 @@ public final class TermsBlockTest {
     }
 
     private static void informationEndsAnswer() {
-        Reader x = cardWithFile(9);
+        Reader x = Cards.withFile(9);
         x.send(193, 4);
         x.send(0, 0, 176, 0, 0, 9);
         Due.is("left", x.state(15), 7);
@@ -166,7 +157,7 @@ public final class TermsBlockTest {
     }
 
     private static void pieces() {
-        Reader x = cardWithFile(10);
+        Reader x = Cards.withFile(10);
         x.send(193, 4);
         Due.are("first", x.send(0, 0, 176, 0, 0, 10), Reader.blockOf(32, 1, 2, 3, 4));
         Due.is("OUT", x.state(12), 1);
@@ -174,7 +165,7 @@ public final class TermsBlockTest {
         Due.are("last: no m", x.send(129), Reader.blockOf(0, 9, 10, 0x90, 0));
         Due.is("nothing is left", x.state(15), 0);
         Due.are("no more", x.send(144), Reader.blockOf(144));
-        Reader y = cardWithFile(2);
+        Reader y = Cards.withFile(2);
         y.send(193, 1);
         Due.are("pieces of 1", y.send(0, 0, 176, 0, 0, 2), Reader.blockOf(32, 1));
         Due.are("2", y.send(144), Reader.blockOf(96, 2));
@@ -183,7 +174,7 @@ public final class TermsBlockTest {
     }
 
     private static void pieceAfterResize() {
-        Reader x = cardWithFile(10);
+        Reader x = Cards.withFile(10);
         x.send(193, 2);
         Due.are("of 2", x.send(0, 0, 176, 0, 0, 10), Reader.blockOf(32, 1, 2));
         x.send(193, 5);
@@ -193,7 +184,7 @@ public final class TermsBlockTest {
     }
 
     private static void readyRepeats() {
-        Reader x = cardWithFile(10);
+        Reader x = Cards.withFile(10);
         x.send(193, 6);
         int[] first = x.send(0, 0, 176, 0, 0, 10);
         Due.are("first", first, Reader.blockOf(32, 1, 2, 3, 4, 5, 6));
@@ -209,7 +200,7 @@ public final class TermsBlockTest {
     }
 
     private static void readyRepeatsOverSupervision() {
-        Reader x = cardWithFile(10);
+        Reader x = Cards.withFile(10);
         x.send(193, 6);
         int[] first = x.send(0, 0, 176, 0, 0, 10);
         Due.are("SIZE", x.send(193, 3), Reader.blockOf(225, 3));
@@ -220,7 +211,7 @@ public final class TermsBlockTest {
     }
 
     private static void readyAfterWrong() {
-        Reader x = cardWithFile(10);
+        Reader x = Cards.withFile(10);
         x.send(193, 6);
         x.send(0, 0, 176, 0, 0, 10);
         x.feedAll(0, 128, 0, 129);
@@ -238,7 +229,7 @@ public final class TermsBlockTest {
     }
 
     private static void resync() {
-        Reader x = cardWithFile(10);
+        Reader x = Cards.withFile(10);
         x.tell(0);
         x.send(193, 6);
         x.send(64, 0, 176, 0, 0, 10);
@@ -275,7 +266,7 @@ public final class TermsBlockTest {
     }
 
     private static void abort() {
-        Reader x = cardWithFile(10);
+        Reader x = Cards.withFile(10);
         x.send(193, 6);
         x.send(0, 0, 176, 0, 0, 10);
         Due.are("194", x.send(194), Reader.blockOf(226));
