@@ -1,9 +1,12 @@
 /** Boundary cases of the terms OCTETS, FILES, RIGHTS, SECRET and TRIES, and of an object's 512 calls. */
 final class FilesBoundaries {
+    private static final String CALLS = "An object is used for at most 512 calls after it has been made; what later calls answer is"
+        + " free.";
+
     private FilesBoundaries() {
     }
 
-    @Of(in = "What it is", says = "An object is used for at most 512 calls after it has been made; what later calls answer is free.")
+    @Of(in = "What it is", says = CALLS)
     static void call512IsAnsweredStill() {
         Reader x = Cards.on();
         for (int call = 2; call < 512; call++) {
@@ -12,7 +15,7 @@ final class FilesBoundaries {
         Due.is("call 512: COMMANDS done", x.state(7), 510);
     }
 
-    @Of(in = "What it is", says = "An object is used for at most 512 calls after it has been made; what later calls answer is free.")
+    @Of(in = "What it is", says = CALLS)
     static void call512AfterAsManyWritingsAsCanBe() {
         Reader x = new Reader();
         x.file(0, 1, 3, 0, 0);

@@ -1,9 +1,12 @@
 /** Boundary cases of the terms WRITINGS, TEAR, CHANGE and NOTE. */
 final class WritingsBoundaries {
+    private static final String BY_WRITINGS = "WRITINGS: what lasts changes by WRITINGS alone, one OCTET each (or the TRIES, or the"
+        + " NOTE).";
+
     private WritingsBoundaries() {
     }
 
-    @Of(in = "Terms", says = "WRITINGS: what lasts changes by WRITINGS alone, one OCTET each (or the TRIES, or the NOTE).")
+    @Of(in = "Terms", says = BY_WRITINGS)
     static void whatOnlyLooksMakesNoWriting() {
         Reader x = Cards.withFile(4);
         int before = x.state(5);
@@ -21,7 +24,7 @@ final class WritingsBoundaries {
         Due.is("the TEAR after 0 is to come still", x.tear(-1), 0);
     }
 
-    @Of(in = "Terms", says = "WRITINGS: what lasts changes by WRITINGS alone, one OCTET each (or the TRIES, or the NOTE).")
+    @Of(in = "Terms", says = BY_WRITINGS)
     static void commandsThatAreNotDoneMakeNoWriting() {
         Reader x = new Reader();
         x.file(0, 1, 2, 0, 2);
@@ -43,7 +46,7 @@ final class WritingsBoundaries {
         Due.is("the TEAR after 0 is to come still", x.tear(-1), 0);
     }
 
-    @Of(in = "Terms", says = "WRITINGS: what lasts changes by WRITINGS alone, one OCTET each (or the TRIES, or the NOTE).")
+    @Of(in = "Terms", says = BY_WRITINGS)
     static void oneWritingChangesOneOctet() {
         for (int k = 0; k <= 4; k++) {
             Reader x = Cards.tornInChange(4, 6 + k);
